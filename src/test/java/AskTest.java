@@ -17,6 +17,7 @@ public final class AskTest {
         gone();
         without();
         between();
+        betweenOfNone();
         evening();
         when();
         must();
@@ -215,6 +216,28 @@ public final class AskTest {
         DUE.is("between(0, 1, 20)", v.between(0, 1, 20), 1);
     }
 
+    /** THING 1 has no place: it goes by next 0, 1, which is 1 and which the other ROW takes or lifts. */
+    private static void betweenOfNone() {
+        String text = "thing easy 9;thing easy 0;thing easy 9;row 0 1;row 0 2;lean place 20;lean next 100;hold 100;"
+            + "grow place by easy times 100;";
+        NonsenseRows x = Due.told(text + "grow next by has plus hour;mix next by 1000;");
+        x.waits(1);
+        x.read(0, 1);
+        x.waits(23);
+        DUE.is("after(0, 24)", x.after(0, 24), 8);
+        DUE.is("needs(1)", x.needs(1), 2);
+        DUE.is("between(0, 1, 24), NONE behind the other", x.between(0, 1, 24), NOTHING);
+        NonsenseRows y = Due.told(text + "grow next by hour;mix next by 0 minus 50;");
+        y.waits(1);
+        y.read(0, 1);
+        y.waits(23);
+        DUE.is("after(0, 24)", y.after(0, 24), -1);
+        DUE.is("needs(1)", y.needs(1), 2);
+        DUE.is("between(0, 1, 24), NONE without the other", y.between(0, 1, 24), NOTHING);
+        y.read(1, 2);
+        DUE.is("needs(0)", y.needs(0), 2);
+    }
+
     private static void evening() {
         DUE.about("promise 21");
         NonsenseRows x = Due.told(STEADY);
@@ -261,6 +284,21 @@ public final class AskTest {
         NonsenseRows z = Due.told(THINGS + "row 0 1;row 2 3;hold 100;lean place 100;grow place by 20 minus tired;");
         z.read(1, 8);
         DUE.is("when(0), no longer tired", z.when(0), 1);
+        whenAtTheLastHour();
+    }
+
+    /** What is there rises by one an hour: in 23 hours it does, or in 24, which is not asked. */
+    private static void whenAtTheLastHour() {
+        String text = THINGS + "row 0 1;lean place 100;grow place by 10;fall place by 0 minus 1;";
+        NonsenseRows x = Due.told(text + "hold 53;");
+        x.read(0, 1);
+        DUE.is("after(0, 22)", x.after(0, 22), 4);
+        DUE.is("after(0, 23)", x.after(0, 23), 3);
+        DUE.is("when(0) in 23 hours", x.when(0), 23);
+        NonsenseRows y = Due.told(text + "hold 54;");
+        y.read(0, 1);
+        DUE.is("after(0, 24)", y.after(0, 24), 3);
+        DUE.is("when(0), 14 hours from now", y.when(0), 14);
     }
 
     private static void must() {

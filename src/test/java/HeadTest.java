@@ -253,28 +253,27 @@ public final class HeadTest {
         x.read(1, 4);
         DUE.is("links(0) without the mixed one", x.links(0), 3);
         DUE.is("links(3)", x.links(3), 6);
-        StringBuilder all = new StringBuilder("grow next by 1;grow back by 1;grow off by 1;grow place by 1;");
-        all.append("thing easy 0;".repeat(24));
+        linksOfAllRows();
+    }
+
+    /** Twelve ROWS of twelve THINGS that have no LINK in common: as many as there can be. */
+    private static void linksOfAllRows() {
+        NonsenseRows x = Due.told("thing easy 0;".repeat(24) + "row 5 17 9 15 11 21 19 7 1 12 6 18;row 22 11 17 12 9 16 13 19 6 15 4 10;"
+            + "row 18 23 20 6 16 15 21 17 8 7 9 3;row 8 15 0 9 10 3 14 16 21 11 18 4;row 0 21 18 10 14 4 8 2 20 5 1 23;"
+            + "row 12 5 8 1 2 10 18 0 22 20 21 7;row 2 9 23 5 21 0 3 15 17 18 14 6;row 16 8 10 22 18 7 0 6 13 3 5 14;"
+            + "row 3 6 12 21 5 19 16 11 14 9 13 1;row 23 14 3 7 22 13 9 20 2 0 10 8;row 17 20 11 3 1 5 15 13 0 4 19 12;"
+            + "row 14 10 2 11 15 8 5 18 12 13 7 19;grow next by 1;grow back by 1;grow off by 1;grow place by 1;");
         for (int row = 0; row < 12; row++) {
-            all.append("row");
-            for (int i = 0; i < 12; i++) {
-                all.append(' ').append((row * 2 + i * (row % 2 == 0 ? 1 : 5)) % 24);
-            }
-            all.append(';');
+            x.read(row, 1);
         }
-        // ROWS that step by 1 or by 5 meet in some LINKS: the plain model counts them
-        NonsenseRows y = new NonsenseRows();
-        PlainModel model = new PlainModel();
-        ModelTest.feedBoth(y, model, all.toString());
-        y.text();
-        model.text();
-        for (int row = 0; row < 12; row++) {
-            y.read(row, 1);
-            model.read(row, 1);
-        }
-        for (int sort = 0; sort < 4; sort++) {
-            DUE.is("links(" + sort + ") of twelve long ROWS", y.links(sort), model.links(sort));
-        }
+        x.keep(0);
+        DUE.is("links(0) of all", x.links(0), 132);
+        DUE.is("links(1) of all", x.links(1), 132);
+        DUE.is("links(2) of all", x.links(2), 120);
+        DUE.is("links(3) of all", x.links(3), 144);
+        DUE.is("forget()", x.forget(), 528);
+        x.back(0);
+        DUE.is("forget() as it was", x.forget(), 528);
     }
 
     private static void support() {

@@ -26,7 +26,7 @@ public final class ModelTest {
         DUE.end("ModelTest");
     }
 
-    static void feedBoth(NonsenseRows x, PlainModel m, String text) {
+    private static void feedBoth(NonsenseRows x, PlainModel m, String text) {
         DUE.is("end(0)", x.end(0), m.end(0));
         for (int from = 0; from < text.length(); from += 20) {
             int[] w = Due.words(text, from);

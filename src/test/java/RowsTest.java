@@ -128,6 +128,22 @@ public final class RowsTest {
         put(x, 1, 0, 1, 1);
         DUE.is("rowOf(1) with twelve, of one twice", x.rowOf(1), -2);
         DUE.is("read(11, 1)", x.read(11, 1), 1);
+        rowsAgain();
+    }
+
+    /** A ROW in the stead of one that an IMAGE did not have is new all the same. */
+    private static void rowsAgain() {
+        NonsenseRows x = Due.told(THINGS + "row 0 1 2;");
+        x.keep(0);
+        put(x, 0, 0, 2, 3);
+        for (int way = 0; way < 9; way++) {
+            int row = way % 3 == 0 ? x.rowOf(0) : way % 3 == 1 ? x.backward(0) : x.shuffled(0, 1);
+            DUE.is("the new ROW", row, 1);
+            DUE.is("used(1)", x.used(1), 0);
+            DUE.is("thing(1, 2)", x.thing(1, 2), way % 3 == 0 ? -1 : way % 3 == 1 ? 0 : 1);
+            x.read(1, 5);
+            x.back(0);
+        }
     }
 
     private static void thing() {
@@ -208,6 +224,7 @@ public final class RowsTest {
         DUE.is("sitting(0, 1)", x.sitting(0, 1), 4);
         DUE.is("sitting(46, 1)", x.sitting(46, 1), 50);
         DUE.is("sitting(47, 0)", x.sitting(47, 0), 1);
+        DUE.is("sitting(58, 1)", x.sitting(58, 1), 12);
         DUE.is("sitting(59, 1)", x.sitting(59, 1), 13);
         DUE.is("sitting(60, 1)", x.sitting(60, 1), -1);
         DUE.is("book(0, 0)", x.book(0, 0), 47);
@@ -233,7 +250,15 @@ public final class RowsTest {
         DUE.is("book(0, 0)", x.book(0, 0), 3);
         DUE.is("book(0, 2)", x.book(0, 2), 5);
         DUE.is("book(0, 3)", x.book(0, 3), 17);
+        x.forget();
+        x.waits(5);
+        x.read(1, 3);
+        x.waits(4);
+        x.read(1, 2);
+        DUE.is("book(1, 3) from hour 5 on", x.book(1, 3), 4);
         DUE.is("book(0, 4)", x.book(0, 4), -1);
+        DUE.is("book(1, 4)", x.book(1, 4), -1);
+        DUE.is("book(1, -1)", x.book(1, -1), -1);
         DUE.is("book(0, -1)", x.book(0, -1), -1);
         DUE.is("book(2, 0)", x.book(2, 0), -1);
         DUE.is("book(-1, 0)", x.book(-1, 0), -1);
@@ -276,8 +301,22 @@ public final class RowsTest {
         DUE.is("parts(0) of NONE", x.parts(0), 1);
         Due.tell(x, THINGS + "row 0 1;");
         DUE.is("parts(0) of none", x.parts(0), -1);
+        partsOfFortyOne();
         Due.tell(x, "");
         DUE.is("parts(0) without ROWS", x.parts(0), -1);
+    }
+
+    /** 40 against 2 is as much as NONE against 3, if NONE counts as 41. */
+    private static void partsOfFortyOne() {
+        NonsenseRows x = Due.told(THINGS + "row 0 1;row 2 3;hold 39;lean place 100;grow place by 20;");
+        x.read(0, 1);
+        x.keep(0);
+        DUE.is("needs(0)", x.needs(0), 2);
+        DUE.is("needs(1)", x.needs(1), 3);
+        Due.tell(x, "thing easy 1;thing easy 1;thing easy 0;thing easy 0;row 0 1;row 2 3;hold 39;lean place 100;grow place by easy;");
+        DUE.is("needs(0)", x.needs(0), 40);
+        DUE.is("needs(1)", x.needs(1), -1);
+        DUE.is("parts(0)", x.parts(0), 0);
     }
 
     private static void images() {

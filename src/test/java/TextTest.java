@@ -142,6 +142,10 @@ public final class TextTest {
         fault("hold 1 2;", 1, 7);
         fault("holds 1;", 1, 0);
         fault("hol 1;", 1, 0);
+        fault("holdz 1;", 1, 0);
+        fault("hold 1 zold;", 1, 7);
+        fault("aold 1;", 1, 0);
+        fault("hxld 1;", 1, 0);
         fault("thing hard 1;", 1, 6);
         fault("thing 1;", 1, 6);
         fault("thing easy;", 1, 10);
