@@ -256,7 +256,9 @@ public final class NonsenseRows {
         }
         walker.passHours(hours);
         int disturbed = desk().needsOf(walker, row);
-        return lessened(disturbed, after(row, hours));
+        walker = desk().walkerFrom(now.mind);
+        walker.passHours(hours);
+        return lessened(disturbed, desk().needsOf(walker, row));
     }
 
     private static int lessened(int readings, int others) {
@@ -382,25 +384,25 @@ public final class NonsenseRows {
         }
         int sittings = 0;
         for (int i = 0; i + 2 < found.length; i += 3) {
-            if (sits(found.numbers[i], found.numbers[i + 1], found.numbers[i + 2])) {
+            long hours = found.numbers[i];
+            long row = found.numbers[i + 1];
+            long readings = found.numbers[i + 2];
+            if (canSit(hours, row, readings)) {
+                now.mind.passHours((int) hours);
+                if (readings == 0) {
+                    now.sitToLearn((int) row);
+                } else {
+                    now.sitToRead((int) row, (int) readings);
+                }
                 sittings++;
             }
         }
         return sittings;
     }
 
-    private boolean sits(long hours, long row, long readings) {
-        boolean readable = readings >= 0 && readings <= MOST_READINGS;
-        if (!isWait(hours) || row < 0 || row >= now.mind.rows.count || !readable) {
-            return false;
-        }
-        now.mind.passHours((int) hours);
-        if (readings == 0) {
-            now.sitToLearn((int) row);
-        } else {
-            now.sitToRead((int) row, (int) readings);
-        }
-        return true;
+    private boolean canSit(long hours, long row, long readings) {
+        boolean known = row >= 0 && row < now.mind.rows.count;
+        return isWait(hours) && known && readings >= 0 && readings <= MOST_READINGS;
     }
 
     public int spread(int row, int n, int days) {
@@ -597,7 +599,7 @@ public final class NonsenseRows {
         if (!told || strength < 0 || strength > MOST_STRENGTH || !now.mind.text.hasThing(thing)) {
             return NOTHING;
         }
-        return now.mind.comesTo(lawOf(what, sort), strength, thing);
+        return now.mind.text.sumOf(lawOf(what, sort), strength, thing, now.mind.head.tired, now.mind.head.hour);
     }
 
     public int count(int what) {
@@ -721,10 +723,12 @@ public final class NonsenseRows {
         static final int EASY = -3;
         static final int TIRED = -4;
         static final int HOUR = -5;
+        static final int QUANTITIES = 5;
         static final int PLUS = 0;
         static final int MINUS = 1;
         static final int TIMES = 2;
         static final int OVER = 3;
+        static final int JOINTS = 4;
         private static final int ALL_LAWS = LAWS * SORTS;
         // A PART with the word that joins it takes five bytes of the TAPE or more.
         private static final int MOST_PARTS = TAPE_SIZE / 5;
@@ -798,51 +802,49 @@ public final class NonsenseRows {
             }
         }
 
-        long sumOf(int law, int has, int easiness, int tired, int hour) {
+        long sumOf(int law, int has, int thing, int tired, int hour) {
             long sum = 0;
             long term = 0;
             boolean minus = false;
             for (int i = lawStart[law]; i < lawEnd[law]; i++) {
-                long value = valueOf(parts[i], has, easiness, tired, hour);
+                long value = parts[i];
+                switch (parts[i]) {
+                    case HAS:
+                        value = has;
+                        break;
+                    case LEFT:
+                        value = MOST_STRENGTH - has;
+                        break;
+                    case EASY:
+                        value = easy[thing];
+                        break;
+                    case TIRED:
+                        value = tired;
+                        break;
+                    case HOUR:
+                        value = hour % DAY;
+                        break;
+                    default:
+                        break;
+                }
+                if (joints[i] == OVER && value == 0) {
+                    return 0;
+                }
                 if (joints[i] == TIMES) {
                     term *= value;
                 } else if (joints[i] == OVER) {
-                    if (value == 0) {
-                        return 0;
-                    }
                     term /= value;
                 } else {
                     sum = minus ? sum - term : sum + term;
                     minus = joints[i] == MINUS;
                     term = value;
                 }
-                if (tooFar(term) || tooFar(sum)) {
+                if (Math.abs(term) > FARTHEST || Math.abs(sum) > FARTHEST) {
                     return 0;
                 }
             }
             sum = minus ? sum - term : sum + term;
-            return tooFar(sum) ? 0 : sum;
-        }
-
-        private static boolean tooFar(long number) {
-            return number > FARTHEST || number < -FARTHEST;
-        }
-
-        private static int valueOf(int part, int has, int easiness, int tired, int hour) {
-            switch (part) {
-                case HAS:
-                    return has;
-                case LEFT:
-                    return MOST_STRENGTH - has;
-                case EASY:
-                    return easiness;
-                case TIRED:
-                    return tired;
-                case HOUR:
-                    return hour;
-                default:
-                    return part;
-            }
+            return Math.abs(sum) > FARTHEST ? 0 : sum;
         }
     }
 
@@ -1045,28 +1047,17 @@ public final class NonsenseRows {
             fixedLaw = NONE;
         }
 
-        long comesTo(int law, int strength, int thing) {
-            if (law == fixedLaw) {
-                return fixedNumber;
-            }
-            return text.sumOf(law, strength, text.easy[thing], head.tired, head.hour % DAY);
-        }
-
         private void grow(int sort, int from, int to) {
-            int cell = Head.cellOf(sort, from, to);
-            int has = head.strengthAt(cell);
-            head.put(cell, bounded(has + comesTo(lawOf(GROW, sort), has, Head.thingOf(cell))));
+            change(Head.cellOf(sort, from, to), lawOf(GROW, sort), 1);
         }
 
-        private void fall(int cell, int law) {
+        private void change(int cell, int law, int sign) {
             int has = head.strengthAt(cell);
-            if (has > 0) {
-                head.put(cell, bounded(has - comesTo(law, has, Head.thingOf(cell))));
+            long by = fixedNumber;
+            if (law != fixedLaw) {
+                by = text.sumOf(law, has, Head.thingOf(cell), head.tired, head.hour);
             }
-        }
-
-        private static int bounded(long strength) {
-            return (int) Math.max(0L, Math.min(strength, MOST_STRENGTH));
+            head.put(cell, (int) Math.max(0L, Math.min(has + sign * by, MOST_STRENGTH)));
         }
 
         private void readOnce(int row) {
@@ -1092,8 +1083,9 @@ public final class NonsenseRows {
                 return;
             }
             for (int c = 0; c < text.things; c++) {
-                if (c != b) {
-                    fall(Head.cellOf(NEXT, a, c), law);
+                int cell = Head.cellOf(NEXT, a, c);
+                if (c != b && head.strengthAt(cell) > 0) {
+                    change(cell, law, -1);
                 }
             }
         }
@@ -1126,7 +1118,9 @@ public final class NonsenseRows {
         private void passHour() {
             for (int i = 0; i < head.listedCount(); i++) {
                 int cell = head.listedCell(i);
-                fall(cell, lawOf(FALL, Head.sortOf(cell)));
+                if (head.strengthAt(cell) > 0) {
+                    change(cell, lawOf(FALL, Head.sortOf(cell)), -1);
+                }
             }
             head.dropEmpty();
             head.hour++;
@@ -1291,23 +1285,19 @@ public final class NonsenseRows {
             trial.head.clear();
             trial.fixedLaw = law;
             trial.fixedNumber = number;
-            for (int i = 0; i < state.book.count; i++) {
-                trial.passHours(state.book.entry(i, Book.HOUR) - trial.head.hour);
-                if (!repeats(state.book, i)) {
+            Book book = state.book;
+            for (int i = 0; i < book.count; i++) {
+                trial.passHours(book.entry(i, Book.HOUR) - trial.head.hour);
+                int row = book.entry(i, Book.ROW);
+                int readings = book.entry(i, Book.READINGS);
+                int outcome = book.entry(i, Book.OUTCOME);
+                if (outcome == Book.WAS_READ) {
+                    trial.readTimes(row, readings);
+                } else if (trial.learnRow(row) != (outcome == Book.WAS_LEARNT ? readings : NONE)) {
                     return false;
                 }
             }
             return true;
-        }
-
-        private boolean repeats(Book book, int i) {
-            int row = book.entry(i, Book.ROW);
-            int readings = book.entry(i, Book.READINGS);
-            if (book.entry(i, Book.OUTCOME) == Book.WAS_READ) {
-                trial.readTimes(row, readings);
-                return true;
-            }
-            return trial.learnRow(row) == (book.entry(i, Book.OUTCOME) == Book.WAS_LEARNT ? readings : NONE);
         }
 
         void searchPlans(Mind mind, int row, int n, int days) {
@@ -1381,40 +1371,118 @@ public final class NonsenseRows {
         }
     }
 
+    /** The TOKENS of a TAPE with their places; a word is told by its number among WORDS. */
+    private static final class Tokens {
+        // SORTS, LAWS, joints and quantities each stand in the order of their numbers elsewhere.
+        private static final String WORDS =
+            "next back off place grow fall mix plus minus times over has left easy tired hour thing row hold lean by ";
+        static final int FIRST_LAW = 4;
+        static final int FIRST_JOINT = 7;
+        static final int FIRST_QUANTITY = 11;
+        static final int EASY = 13;
+        static final int THING = 16;
+        static final int ROW = 17;
+        static final int HOLD = 18;
+        static final int LEAN = 19;
+        static final int BY = 20;
+        static final int NUMBER = 21;
+        static final int SEMICOLON = 22;
+        static final int UNKNOWN = 23;
+        static final int END = 24;
+        // Beyond every bound of the document, so that long numbers may stop there.
+        private static final int HUGE = 1000000;
+
+        final int[] kinds = new int[TAPE_SIZE + 1];
+        final int[] places = new int[TAPE_SIZE + 1];
+        final int[] numbers = new int[TAPE_SIZE + 1];
+        int count;
+
+        void cut(byte[] tape, int n) {
+            int length = Math.min(n, tape.length);
+            count = 0;
+            int at = 0;
+            while (at < length) {
+                int end = at + 1;
+                if (isLetter(tape[at])) {
+                    while (end < length && isLetter(tape[end])) {
+                        end++;
+                    }
+                    add(wordAt(tape, at, end), at, 0);
+                } else if (isDigit(tape[at])) {
+                    int number = tape[at] - '0';
+                    while (end < length && isDigit(tape[end])) {
+                        number = Math.min(number * 10 + tape[end] - '0', HUGE);
+                        end++;
+                    }
+                    add(NUMBER, at, number);
+                } else if (tape[at] != 32 && tape[at] != 10) {
+                    add(tape[at] == ';' ? SEMICOLON : UNKNOWN, at, 0);
+                }
+                at = end;
+            }
+            add(END, length, 0);
+        }
+
+        private void add(int kind, int place, int number) {
+            if (count <= TAPE_SIZE) {
+                kinds[count] = kind;
+                places[count] = place;
+                numbers[count] = number;
+                count++;
+            }
+        }
+
+        private static boolean isLetter(int sign) {
+            return sign >= 'a' && sign <= 'z';
+        }
+
+        private static boolean isDigit(int sign) {
+            return sign >= '0' && sign <= '9';
+        }
+
+        private static int wordAt(byte[] tape, int start, int end) {
+            int word = 0;
+            int at = start;
+            boolean same = true;
+            for (int i = 0; i < WORDS.length(); i++) {
+                char sign = WORDS.charAt(i);
+                if (sign != ' ') {
+                    same = same && at < end && tape[at] == sign;
+                    at++;
+                } else if (same && at == end) {
+                    return word;
+                } else {
+                    word++;
+                    at = start;
+                    same = true;
+                }
+            }
+            return UNKNOWN;
+        }
+    }
+
     /** Takes a TAPE for a TEXT, TOKEN by TOKEN, up to its first FAULT. */
     private static final class Parser {
-        private static final int END = 0;
-        private static final int WORD = 1;
-        private static final int NUMBER = 2;
-        private static final int SEMICOLON = 3;
-        private static final int UNKNOWN = 4;
         private static final int BAD_TOKEN = 1;
         private static final int OUT_OF_BOUNDS = 2;
         private static final int TOO_MANY = 3;
-        // Beyond every bound of the document, so that long numbers may stop there.
-        private static final int HUGE = 1000000;
 
         final Text text = new Text();
         final Rows rows = new Rows();
         int fault;
         int faultPlace;
-        private byte[] tape;
-        private int length;
+        private final Tokens tokens = new Tokens();
+        private int current;
         private int kind;
-        private int tokenStart;
-        private int tokenEnd;
         private int number;
         private boolean holdTold;
         private final boolean[] leanTold = new boolean[SORTS];
 
-        boolean takes(byte[] bytes, int n) {
-            tape = bytes;
-            length = n;
-            fault = 0;
-            faultPlace = NONE;
+        boolean takes(byte[] tape, int length) {
             clear();
-            advance();
-            for (int i = 0; i <= TAPE_SIZE && kind != END; i++) {
+            tokens.cut(tape, length);
+            look(0);
+            for (int i = 0; i <= TAPE_SIZE && kind != Tokens.END; i++) {
                 if (!takesLine()) {
                     return false;
                 }
@@ -1427,89 +1495,34 @@ public final class NonsenseRows {
         private void clear() {
             text.clear();
             rows.clear();
-            tokenEnd = 0;
+            fault = 0;
+            faultPlace = NONE;
             holdTold = false;
             for (int sort = 0; sort < SORTS; sort++) {
                 leanTold[sort] = false;
             }
         }
 
-        private int byteAt(int place) {
-            return place >= 0 && place < length && place < tape.length ? tape[place] & 255 : -1;
-        }
-
-        private static boolean isLetter(int sign) {
-            return sign >= 'a' && sign <= 'z';
-        }
-
-        private static boolean isDigit(int sign) {
-            return sign >= '0' && sign <= '9';
+        private void look(int token) {
+            if (token < tokens.count) {
+                current = token;
+                kind = tokens.kinds[token];
+                number = tokens.numbers[token];
+            }
         }
 
         private void advance() {
-            int start = tokenEnd;
-            while (start < length && (byteAt(start) == 32 || byteAt(start) == 10)) {
-                start++;
-            }
-            tokenStart = start;
-            tokenEnd = start + 1;
-            int sign = byteAt(start);
-            if (start >= length) {
-                kind = END;
-                tokenEnd = start;
-            } else if (isLetter(sign)) {
-                advanceWord();
-            } else if (isDigit(sign)) {
-                advanceNumber();
-            } else {
-                kind = sign == ';' ? SEMICOLON : UNKNOWN;
-            }
-        }
-
-        private void advanceWord() {
-            kind = WORD;
-            while (tokenEnd < length && isLetter(byteAt(tokenEnd))) {
-                tokenEnd++;
-            }
-        }
-
-        private void advanceNumber() {
-            kind = NUMBER;
-            number = byteAt(tokenStart) - '0';
-            while (tokenEnd < length && isDigit(byteAt(tokenEnd))) {
-                number = Math.min(number * 10 + byteAt(tokenEnd) - '0', HUGE);
-                tokenEnd++;
-            }
+            look(current + 1);
         }
 
         private boolean refuse(int what) {
             fault = what;
-            faultPlace = tokenStart;
+            faultPlace = tokens.places[current];
             return false;
         }
 
-        private boolean isWord(String word) {
-            if (kind != WORD || word.length() != tokenEnd - tokenStart) {
-                return false;
-            }
-            for (int i = 0; i < word.length(); i++) {
-                if (byteAt(tokenStart + i) != word.charAt(i)) {
-                    return false;
-                }
-            }
-            return true;
-        }
-
-        private boolean takesWord(String word) {
-            if (!isWord(word)) {
-                return refuse(BAD_TOKEN);
-            }
-            advance();
-            return true;
-        }
-
-        private boolean takesSemicolon() {
-            if (kind != SEMICOLON) {
+        private boolean takesKind(int due) {
+            if (kind != due) {
                 return refuse(BAD_TOKEN);
             }
             advance();
@@ -1517,27 +1530,31 @@ public final class NonsenseRows {
         }
 
         private boolean isNumberUpTo(int most) {
-            if (kind != NUMBER) {
+            if (kind != Tokens.NUMBER) {
                 return refuse(BAD_TOKEN);
             }
             return number <= most || refuse(OUT_OF_BOUNDS);
         }
 
+        /** Which of several words that stand one behind the other this TOKEN is; NONE: no one. */
+        private int among(int first, int many) {
+            return kind >= first && kind < first + many ? kind - first : NONE;
+        }
+
         private boolean takesLine() {
-            if (isWord("thing")) {
-                return takesThing();
+            switch (kind) {
+                case Tokens.THING:
+                    return takesThing();
+                case Tokens.ROW:
+                    return takesRow();
+                case Tokens.HOLD:
+                    return takesHold();
+                case Tokens.LEAN:
+                    return takesLean();
+                default:
+                    int what = among(Tokens.FIRST_LAW, LAWS);
+                    return what == NONE ? refuse(BAD_TOKEN) : takesLaw(what);
             }
-            if (isWord("row")) {
-                return takesRow();
-            }
-            if (isWord("hold")) {
-                return takesHold();
-            }
-            if (isWord("lean")) {
-                return takesLean();
-            }
-            int what = lawHere();
-            return what == NONE ? refuse(BAD_TOKEN) : takesLaw(what);
         }
 
         private boolean takesThing() {
@@ -1545,12 +1562,12 @@ public final class NonsenseRows {
                 return refuse(TOO_MANY);
             }
             advance();
-            if (!takesWord("easy") || !isNumberUpTo(9)) {
+            if (!takesKind(Tokens.EASY) || !isNumberUpTo(9)) {
                 return false;
             }
             text.addThing(number);
             advance();
-            return takesSemicolon();
+            return takesKind(Tokens.SEMICOLON);
         }
 
         private boolean takesRow() {
@@ -1559,7 +1576,7 @@ public final class NonsenseRows {
             }
             advance();
             rows.begin();
-            for (int i = 0; i <= ROW_SIZE && kind == NUMBER; i++) {
+            for (int i = 0; i <= ROW_SIZE && kind == Tokens.NUMBER; i++) {
                 if (!takesThingOfRow()) {
                     return false;
                 }
@@ -1568,7 +1585,7 @@ public final class NonsenseRows {
                 return refuse(BAD_TOKEN);
             }
             rows.close();
-            return takesSemicolon();
+            return takesKind(Tokens.SEMICOLON);
         }
 
         private boolean takesThingOfRow() {
@@ -1593,12 +1610,12 @@ public final class NonsenseRows {
             text.hold = number;
             holdTold = true;
             advance();
-            return takesSemicolon();
+            return takesKind(Tokens.SEMICOLON);
         }
 
         private boolean takesLean() {
             advance();
-            int sort = sortHere();
+            int sort = among(0, SORTS);
             if (sort == NONE) {
                 return refuse(BAD_TOKEN);
             }
@@ -1612,35 +1629,12 @@ public final class NonsenseRows {
             text.leans[sort] = number;
             leanTold[sort] = true;
             advance();
-            return takesSemicolon();
-        }
-
-        private int lawHere() {
-            if (isWord("grow")) {
-                return GROW;
-            }
-            if (isWord("fall")) {
-                return FALL;
-            }
-            return isWord("mix") ? MIX : NONE;
-        }
-
-        private int sortHere() {
-            if (isWord("next")) {
-                return NEXT;
-            }
-            if (isWord("back")) {
-                return BACK;
-            }
-            if (isWord("off")) {
-                return OFF;
-            }
-            return isWord("place") ? PLACE : NONE;
+            return takesKind(Tokens.SEMICOLON);
         }
 
         private boolean takesLaw(int what) {
             advance();
-            int sort = sortHere();
+            int sort = among(0, SORTS);
             if (sort == NONE || (what == MIX && sort != NEXT)) {
                 return refuse(BAD_TOKEN);
             }
@@ -1649,7 +1643,7 @@ public final class NonsenseRows {
                 return refuse(OUT_OF_BOUNDS);
             }
             advance();
-            return takesWord("by") && takesSum(law) && takesSemicolon();
+            return takesKind(Tokens.BY) && takesSum(law) && takesKind(Tokens.SEMICOLON);
         }
 
         private boolean takesSum(int law) {
@@ -1659,7 +1653,7 @@ public final class NonsenseRows {
                 if (!takesPart(law, joint)) {
                     return false;
                 }
-                joint = jointHere();
+                joint = among(Tokens.FIRST_JOINT, Text.JOINTS);
                 if (joint != NONE) {
                     advance();
                 }
@@ -1667,47 +1661,14 @@ public final class NonsenseRows {
             return true;
         }
 
-        private int jointHere() {
-            if (isWord("plus")) {
-                return Text.PLUS;
-            }
-            if (isWord("minus")) {
-                return Text.MINUS;
-            }
-            if (isWord("times")) {
-                return Text.TIMES;
-            }
-            return isWord("over") ? Text.OVER : NONE;
-        }
-
         private boolean takesPart(int law, int joint) {
-            int part = quantityHere();
-            if (part == 0) {
-                if (!isNumberUpTo(1000)) {
-                    return false;
-                }
-                part = number;
+            int quantity = among(Tokens.FIRST_QUANTITY, Text.QUANTITIES);
+            if (quantity == NONE && !isNumberUpTo(1000)) {
+                return false;
             }
-            text.addPart(law, joint, part);
+            text.addPart(law, joint, quantity == NONE ? number : Text.HAS - quantity);
             advance();
             return true;
-        }
-
-        /** The PART that a word names; 0: it is none. */
-        private int quantityHere() {
-            if (isWord("has")) {
-                return Text.HAS;
-            }
-            if (isWord("left")) {
-                return Text.LEFT;
-            }
-            if (isWord("easy")) {
-                return Text.EASY;
-            }
-            if (isWord("tired")) {
-                return Text.TIRED;
-            }
-            return isWord("hour") ? Text.HOUR : 0;
         }
     }
 }
