@@ -393,6 +393,10 @@ public final class HeadTest {
         DUE.is("2e9 on the way", x.law(1, 1, 0, 0), 0);
         DUE.is("1e9 plus 1 minus 1", x.law(1, 2, 0, 0), 0);
         DUE.is("over 0", x.law(1, 3, 0, 0), 0);
+        NonsenseRows y = Due.told("thing easy 2;grow next by 1000 times 1000 times 1000 minus 1;"
+            + "grow back by 0 minus 1000 times 1000 times 1000 plus 1;");
+        DUE.is("1e9 minus 1", y.law(0, 0, 0, 0), 999999999L);
+        DUE.is("-1e9 plus 1", y.law(0, 1, 0, 0), -999999999L);
         DUE.is("terms cut each", x.law(2, 0, 0, 0), 1);
     }
 

@@ -144,6 +144,14 @@ public final class RowsTest {
             x.read(1, 5);
             x.back(0);
         }
+        Due.tell(x, THINGS + "row 0 1;row 0 1 2 3;row 3 2 1 0;row 1 2 0;");
+        Due.tell(x, THINGS + "row 0 1 2;");
+        DUE.is("rowOf(0) behind another TEXT", x.rowOf(0), 1);
+        things(x, 1, 2, 3);
+        DUE.is("backward(0) behind another TEXT", x.backward(0), 2);
+        things(x, 2, 2, 1, 0);
+        DUE.is("shuffled(0, 1) behind another TEXT", x.shuffled(0, 1), 3);
+        things(x, 3, 0, 2, 1);
     }
 
     private static void thing() {

@@ -13,6 +13,7 @@ public final class TextTest {
         faultTwice();
         faultTooMany();
         faultCall();
+        fullTape();
         DUE.end("TextTest");
     }
 
@@ -166,6 +167,12 @@ public final class TextTest {
         fault("grow next by 1 1;", 1, 15);
         fault("grow next by 1 has;", 1, 15);
         fault("grow next by had;", 1, 13);
+        fault("grow next by thing;", 1, 13);
+        fault("grow next by over;", 1, 13);
+        fault("grow next by 1 has 1;", 1, 15);
+        fault("grow grow by 1;", 1, 5);
+        fault("lean grow 1;", 1, 5);
+        fault("plus next by 1;", 1, 0);
         fault("grow next by 1 times", 1, 20);
         fault("mix back by 1;", 1, 4);
         fault("mix off by 1;", 1, 4);
@@ -244,5 +251,17 @@ public final class TextTest {
         Due.tell(x, "hold 500;");
         DUE.is("fault(0) of the latest", x.fault(0), 0);
         DUE.is("fault(1) of the latest", x.fault(1), -1);
+    }
+
+    private static void fullTape() {
+        DUE.about("a TAPE of 900 bytes");
+        fault(";".repeat(900), 1, 0);
+        fault("hold 1;" + " ".repeat(893), 0, -1);
+        fault("hold 1;" + " ".repeat(892) + ";", 1, 899);
+        fault("hold " + "0".repeat(893) + "7;", 0, -1);
+        fault("hold " + "9".repeat(895), 2, 5);
+        fault("hold " + "0".repeat(894) + "9", 1, 900);
+        NonsenseRows x = Due.told("thing easy 1;grow next by 1" + "plus1".repeat(174) + ";");
+        DUE.is("a LAW of 175 PARTS", x.law(0, 0, 0, 0), 175);
     }
 }
