@@ -97,10 +97,10 @@ public final class NonsenseRows {
         boolean whole = parser.takes(tape, tapeLength);
         latestFault = parser.fault;
         latestPlace = parser.faultPlace;
-        tapeLength = 0;
         if (!whole) {
             return FAULTY;
         }
+        tapeLength = 0;
         now.mind.text.copyFrom(parser.text);
         now.mind.rows.copyFrom(parser.rows);
         now.mind.head.clear();

@@ -398,11 +398,10 @@ final class PlainModel {
     }
 
     int text() {
-        String s = tape.toString();
-        tape = new StringBuilder();
-        cutTokens(s);
+        cutTokens(tape.toString());
         try {
             told = parse();
+            tape = new StringBuilder();
             brain = new Brain();
             book = new ArrayList<>();
             lost = false;
