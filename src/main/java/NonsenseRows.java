@@ -95,12 +95,12 @@ public final class NonsenseRows {
             parser = new Parser();
         }
         boolean whole = parser.takes(tape, tapeLength);
+        tapeLength = 0;
         latestFault = parser.fault;
         latestPlace = parser.faultPlace;
         if (!whole) {
             return FAULTY;
         }
-        tapeLength = 0;
         now.mind.text.copyFrom(parser.text);
         now.mind.rows.copyFrom(parser.rows);
         now.mind.head.clear();
@@ -595,8 +595,8 @@ public final class NonsenseRows {
     }
 
     public long law(int what, int sort, int strength, int thing) {
-        boolean told = what >= 0 && what < LAWS && isSort(sort) && (what != MIX || sort == NEXT);
-        if (!told || strength < 0 || strength > MOST_STRENGTH || !now.mind.text.hasThing(thing)) {
+        boolean such = what >= 0 && what < LAWS && isSort(sort) && now.mind.text.hasThing(thing);
+        if (!such || strength < 0 || strength > MOST_STRENGTH) {
             return NOTHING;
         }
         return now.mind.text.sumOf(lawOf(what, sort), strength, thing, now.mind.head.tired, now.mind.head.hour);

@@ -1,4 +1,5 @@
 import java.nio.charset.StandardCharsets;
+import java.util.function.LongSupplier;
 
 /** What the project's tests share: a text fed to an object, and answers held against those due. */
 final class Due {
@@ -13,6 +14,22 @@ final class Due {
         if (got != want) {
             wrong++;
             System.out.println(about + ": " + call + " answered " + got + ", due is " + want);
+        }
+    }
+
+    /** A call that is refused: nothing happens. */
+    void refused(NonsenseRows x, String call, LongSupplier ask, long want) {
+        onPaper(x, call, ask, want);
+    }
+
+    /** The answer that is due, and all that can be looked at is as it was. */
+    void onPaper(NonsenseRows x, String call, LongSupplier ask, long want) {
+        String before = Look.at(x);
+        is(call, ask.getAsLong(), want);
+        String behind = Look.at(x);
+        if (!behind.equals(before)) {
+            wrong++;
+            System.out.println(about + ": " + call + " made of\n" + before + "this:\n" + behind);
         }
     }
 

@@ -366,7 +366,7 @@ public final class HeadTest {
         x.waits(30);
         x.read(0, 1);
         DUE.is("law(0, 3, 5, 0) at an hour", x.law(0, 3, 5, 0), 106);
-        DUE.is("law(2, 1, 5, 0)", x.law(2, 1, 5, 0), NOTHING);
+        DUE.is("law(2, 1, 5, 0): no such LAW", x.law(2, 1, 5, 0), 0);
         DUE.is("law(3, 0, 5, 0)", x.law(3, 0, 5, 0), NOTHING);
         DUE.is("law(-1, 0, 5, 0)", x.law(-1, 0, 5, 0), NOTHING);
         DUE.is("law(0, 4, 5, 0)", x.law(0, 4, 5, 0), NOTHING);

@@ -399,9 +399,9 @@ final class PlainModel {
 
     int text() {
         cutTokens(tape.toString());
+        tape = new StringBuilder();
         try {
             told = parse();
-            tape = new StringBuilder();
             brain = new Brain();
             book = new ArrayList<>();
             lost = false;
@@ -854,7 +854,7 @@ final class PlainModel {
     }
 
     long law(int what, int sort, int strength, int thing) {
-        if (what < 0 || what > 2 || sort < 0 || sort > 3 || what == 2 && sort > 0 || strength < 0 || strength > 1000
+        if (what < 0 || what > 2 || sort < 0 || sort > 3 || strength < 0 || strength > 1000
             || thing < 0 || thing >= told.easy.size()) {
             return NOTHING;
         }

@@ -88,9 +88,7 @@ public final class TextTest {
         x.waits(5);
         x.row(1, 0, 4);
         DUE.is("text() with a fault", Due.tell(x, "thing easy 3;row 0 1;"), -4);
-        DUE.is("count(3): the TAPE stays", x.count(3), 21);
-        DUE.is("text() of the same TAPE", x.text(), -4);
-        DUE.is("fault(1) of the same TAPE", x.fault(1), 19);
+        DUE.is("count(3): the TAPE is empty then", x.count(3), 0);
         DUE.is("count(0) stays", x.count(0), 3);
         DUE.is("count(1) stays", x.count(1), 2);
         DUE.is("count(4) stays", x.count(4), 5);
@@ -119,7 +117,7 @@ public final class TextTest {
         DUE.is("text() of " + text, answer < 0 ? answer : 0, kind == 0 ? 0 : -4);
         DUE.is("fault(0) of " + text, x.fault(0), kind);
         DUE.is("fault(1) of " + text, x.fault(1), place);
-        DUE.is("count(3) behind " + text, x.count(3), kind == 0 ? 0 : text.length());
+        DUE.is("count(3) behind " + text, x.count(3), 0);
     }
 
     private static void faultKinds() {
