@@ -95,6 +95,7 @@ public final class NonsenseRows {
             parser = new Parser();
         }
         boolean whole = parser.takes(tape, tapeLength);
+        // A TAPE that was looked at is used up, with a FAULT too: what stays then is TEXT, HEAD and BOOK.
         tapeLength = 0;
         latestFault = parser.fault;
         latestPlace = parser.faultPlace;

@@ -33,6 +33,14 @@ final class Due {
         }
     }
 
+    /** A SLOT has a row of these numbers. */
+    void put(NonsenseRows x, int slot, int width, long... numbers) {
+        is("row", x.row(slot, width, numbers.length), 0);
+        for (int i = 0; i < numbers.length; i++) {
+            is("write", x.write(slot, i, numbers[i]), 0);
+        }
+    }
+
     /** Ends the test: exit code 1 if an answer was not the one due. */
     void end(String test) {
         System.out.println(test + ": " + (wrong == 0 ? "all answers are as due" : wrong + " answers are not as due"));

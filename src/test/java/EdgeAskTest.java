@@ -28,6 +28,7 @@ public final class EdgeAskTest {
         without();
         betweenRefused();
         betweenHours();
+        betweenOfOthers();
         betweenOfNone();
         eveningRefused();
         eveningBounds();
@@ -220,6 +221,14 @@ public final class EdgeAskTest {
         DUE.onPaper(x, "without(0, 3)", () -> x.without(0, 3), -1);
         DUE.onPaper(x, "without(1, 2), the last ROW", () -> x.without(1, 2), 3);
         DUE.onPaper(x, "needs(0)", () -> x.needs(0), 3);
+        x.without(0, 3);
+        DUE.is("needs(0) counts all again", x.needs(0), 3);
+        x.without(0, 3);
+        DUE.is("fresh(0) counts all again", x.fresh(0), 3);
+        x.without(0, 3);
+        DUE.is("left(0, 1, 1, 1) counts all again", x.left(0, 1, 1, 1), 130);
+        NonsenseRows z = Due.told("thing easy 9;thing easy 1;row 0 1;hold 1;lean place 99;grow place by easy;");
+        DUE.is("without(0, 0): 99 in 100 are none", z.without(0, 0), 3);
         // THING 1 in place 1 goes by back 0, 1 alone
         NonsenseRows y = Due.told("thing easy 9;thing easy 0;row 0 1;row 1 0;hold 100;lean back 100;lean place 50;grow back by 50;"
             + "grow place by easy times 50;");
@@ -258,6 +267,15 @@ public final class EdgeAskTest {
         y.read(2, 10);
         DUE.onPaper(y, "between(0, 1, 1), below 0", () -> y.between(0, 1, 1), -9);
         DUE.onPaper(y, "between(0, 1, 200)", () -> y.between(0, 1, 200), 0);
+    }
+
+    private static void betweenOfOthers() {
+        DUE.about("20: behind some hours .. if another ROW is LEARNT now than if not");
+        NonsenseRows x = steady(100);
+        // the ROWS have nothing in common: 50 is left of it either way
+        DUE.onPaper(x, "after(0, 50)", () -> x.after(0, 50), 6);
+        DUE.onPaper(x, "between(0, 1, 50)", () -> x.between(0, 1, 50), 0);
+        DUE.onPaper(x, "between(1, 0, 50)", () -> x.between(1, 0, 50), 0);
     }
 
     private static void betweenOfNone() {
@@ -322,6 +340,10 @@ public final class EdgeAskTest {
         x.waits(1);
         DUE.onPaper(x, "evening(0, 22, 0)", () -> x.evening(0, 22, 0), 0);
         DUE.onPaper(x, "evening(0, 23, 0), not later", () -> x.evening(0, 23, 0), NOTHING);
+        NonsenseRows w = Due.told(THINGS + "row 0 1;hold 10;lean place 100;grow place by hour;");
+        w.waits(1);
+        DUE.onPaper(w, "evening(0, 22, 3), needs() at hour 26", () -> w.evening(0, 22, 3), 0);
+        DUE.onPaper(w, "evening(0, 23, 2), not at hour 24", () -> w.evening(0, 23, 2), NOTHING);
         // 20 behind two READINGS at hour 0 or 5, 8 or 13 of it at hour 12, when nothing grows
         NonsenseRows y = Due.told(THINGS + "row 0 1;hold 10;lean place 100;grow place by 10 minus hour over 12 times 10;fall place by 1;");
         DUE.onPaper(y, "evening(0, 5, 6)", () -> y.evening(0, 5, 6), 0);

@@ -282,6 +282,13 @@ public final class EdgeHeadTest {
         DUE.is("next 2, 23 leads from another one", x.strength(0, 2, 23), 100);
         x.read(3, 1);
         DUE.is("next 5, 1 leads from another one", x.strength(0, 0, 1), 86);
+        NonsenseRows z = Due.told(THINGS + "row 1 0;row 1 2;row 1 3;grow next by 100;mix next by 7;");
+        z.read(0, 1);
+        z.read(1, 1);
+        z.read(2, 1);
+        DUE.is("next 1, 0, the first THING", z.strength(0, 1, 0), 86);
+        DUE.is("next 1, 2", z.strength(0, 1, 2), 93);
+        DUE.is("next 1, 3", z.strength(0, 1, 3), 100);
         NonsenseRows y = Due.told(THINGS + "row 0 1;row 0 2;grow next by 100;mix next by 0 minus 7;");
         y.read(0, 1);
         DUE.is("what is not there does not rise", y.strength(0, 0, 2), 0);

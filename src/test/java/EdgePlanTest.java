@@ -181,6 +181,16 @@ public final class EdgePlanTest {
         y.read(0, 50);
         y.read(1, 1);
         DUE.is("read() fits all", y.fit(0, 3, 0, 30, 0), 31);
+        NonsenseRows z = Due.told(STEADY);
+        z.read(0, 8);
+        DUE.is("learn(0) behind eight", z.learn(0), 3);
+        // 10 v is 100 or more, 9 v is not
+        DUE.is("how many behind read()", z.fit(0, 3, 0, 30, 0), 2);
+        DUE.is("needs(1) by the LAW that is told", z.needs(1), 11);
+        z.fit(0, 3, 1, 1, 0);
+        DUE.is("fresh(1) by the LAW that is told", z.fresh(1), 11);
+        z.fit(0, 3, 1, 1, 0);
+        DUE.is("fit() of another LAW", z.fit(1, 3, 0, 30, 0), 31);
     }
 
     private static void fitNone() {
@@ -239,17 +249,10 @@ public final class EdgePlanTest {
 
     // ---- days
 
-    private static void put(NonsenseRows x, int slot, int width, long... numbers) {
-        DUE.is("row", x.row(slot, width, numbers.length), 0);
-        for (int i = 0; i < numbers.length; i++) {
-            DUE.is("write", x.write(slot, i, numbers[i]), 0);
-        }
-    }
-
     private static void daysRefused() {
         DUE.about("27: -2: there is no such SLOT; -6: it has nothing");
         NonsenseRows x = Due.told(STEADY);
-        put(x, 0, 0, 1, 0, 1);
+        DUE.put(x, 0, 0, 1, 0, 1);
         for (int slot : new int[] {-1, 4, MOST, LEAST}) {
             DUE.refused(x, "days(" + slot + ")", () -> x.days(slot), -2);
         }
@@ -257,7 +260,7 @@ public final class EdgePlanTest {
             int s = slot;
             DUE.refused(x, "days(" + slot + ")", () -> x.days(s), -6);
         }
-        put(x, 3, 0, 1, 0, 1);
+        DUE.put(x, 3, 0, 1, 0, 1);
         DUE.is("days(3)", x.days(3), 1);
         DUE.is("days(0)", x.days(0), 1);
     }
@@ -283,7 +286,7 @@ public final class EdgePlanTest {
         long[][] due = {{0, 1}, {1, 1}, {199, 1}, {200, 1}, {201, 0}, {-1, 0}, {MOST, 0}, {LEAST, 0}};
         for (long[] pair : due) {
             int before = x.count(4);
-            put(x, 0, 3, pair[0], 0, 1);
+            DUE.put(x, 0, 3, pair[0], 0, 1);
             DUE.is("days(0) of " + pair[0] + " hours", x.days(0), pair[1]);
             DUE.is("count(4) behind " + pair[0], x.count(4) - before, pair[1] * pair[0]);
         }
@@ -294,28 +297,28 @@ public final class EdgePlanTest {
         NonsenseRows x = Due.told(STEADY);
         long[][] due = {{0, 1}, {1, 1}, {2, 0}, {12, 0}, {-1, 0}, {MOST, 0}, {LEAST, 0}};
         for (long[] pair : due) {
-            put(x, 0, 3, 1, pair[0], 1);
+            DUE.put(x, 0, 3, 1, pair[0], 1);
             DUE.is("days(0) of ROW " + pair[0], x.days(0), pair[1]);
-            put(x, 0, 3, 1, pair[0], 0);
+            DUE.put(x, 0, 3, 1, pair[0], 0);
             DUE.is("days(0) of ROW " + pair[0] + ", LEARNT", x.days(0), pair[1]);
         }
         DUE.is("count(4)", x.count(4), 4);
         x.backward(0);
-        put(x, 0, 3, 1, 2, 1);
+        DUE.put(x, 0, 3, 1, 2, 1);
         DUE.is("days(0) of a new ROW", x.days(0), 1);
     }
 
     private static void daysReadings() {
         DUE.about("27: READINGS; 0 READINGS: learn()");
         NonsenseRows x = Due.told(STEADY);
-        put(x, 0, 1, 0, 0, 0, 0, 1, 1, 0, 1, 50, 0, 1, 51, 0, 1, -1);
+        DUE.put(x, 0, 1, 0, 0, 0, 0, 1, 1, 0, 1, 50, 0, 1, 51, 0, 1, -1);
         DUE.is("days(0)", x.days(0), 3);
         DUE.is("sitting(0, 1)", x.sitting(0, 1), 11);
         DUE.is("sitting(1, 1)", x.sitting(1, 1), 1);
         DUE.is("sitting(2, 1)", x.sitting(2, 1), 50);
         DUE.is("used(1)", x.used(1), 51);
         NonsenseRows y = Due.told(THINGS + "row 0 1;hold 1;");
-        put(y, 0, 0, 1, 0, 0);
+        DUE.put(y, 0, 0, 1, 0, 0);
         DUE.is("days(0) of what can't be LEARNT: a SITTING", y.days(0), 1);
         DUE.is("used(0)", y.used(0), 40);
     }
@@ -341,9 +344,9 @@ public final class EdgePlanTest {
         DUE.about("27: those of which one is refused left out whole");
         NonsenseRows x = Due.told(STEADY);
         x.read(0, 5);
-        put(x, 0, 1, 201, 0, 1, 9, 2, 1, 9, 0, 51, -1, 0, 1, 9, -1, 1, 9, 0, -1);
+        DUE.put(x, 0, 1, 201, 0, 1, 9, 2, 1, 9, 0, 51, -1, 0, 1, 9, -1, 1, 9, 0, -1);
         DUE.refused(x, "days(0)", () -> x.days(0), 0);
-        put(x, 0, 1, 201, 0, 1, 9, 1, 2, 9, 2, 1, 4, 0, 3);
+        DUE.put(x, 0, 1, 201, 0, 1, 9, 1, 2, 9, 2, 1, 4, 0, 3);
         DUE.is("days(0) with two of four", x.days(0), 2);
         DUE.is("count(4)", x.count(4), 13);
         DUE.is("sitting(1, 2)", x.sitting(1, 2), 9);
@@ -354,13 +357,13 @@ public final class EdgePlanTest {
         DUE.about("27: great numbers are not cut anew");
         NonsenseRows x = Due.told(STEADY);
         long far = 1L << 32;
-        put(x, 0, 3, far, 0, 1, 1, far, 1, 1, 0, far, 1, 0, far + 1, -far, 0, 1, 1, far + 1, 1, Long.MAX_VALUE, 0, 1, Long.MIN_VALUE, 0, 1);
+        DUE.put(x, 0, 3, far, 0, 1, 1, far, 1, 1, 0, far, 1, 0, far + 1, -far, 0, 1, 1, far + 1, 1, Long.MAX_VALUE, 0, 1, Long.MIN_VALUE, 0, 1);
         DUE.refused(x, "days(0)", () -> x.days(0), 0);
-        put(x, 0, 2, far, 0, 1, 1, far, 1, 1, 0, far + 2, 1, 1, -far);
+        DUE.put(x, 0, 2, far, 0, 1, 1, far, 1, 1, 0, far + 2, 1, 1, -far);
         DUE.is("days(0) of four bytes", x.days(0), 4);
         DUE.is("count(4)", x.count(4), 3);
         // numbers of one byte are -128 .. 127
-        put(x, 0, 0, 127, 0, 1, 128, 0, 1, 255, 0, 1, 256, 0, 1, -129, 0, 1, -1, 0, 1);
+        DUE.put(x, 0, 0, 127, 0, 1, 128, 0, 1, 255, 0, 1, 256, 0, 1, -129, 0, 1, -1, 0, 1);
         DUE.is("days(0) of bytes", x.days(0), 3);
         DUE.is("count(4)", x.count(4), 3 + 127 + 127);
     }
@@ -466,6 +469,11 @@ public final class EdgePlanTest {
         DUE.onPaper(x, "left(0, 1, 1, 2)", () -> x.left(0, 1, 1, 2), 2 * 250);
         DUE.onPaper(x, "left(0, 1, 2, 1)", () -> x.left(0, 1, 2, 1), 2 * 250);
         DUE.onPaper(x, "left(0, 1, 2, 2)", () -> x.left(0, 1, 2, 2), 2 * 330);
+        NonsenseRows z = Due.told(THINGS + "row 0 1;row 2 1 0;lean place 100;lean next 100;grow place by 10;grow next by 1;");
+        z.read(1, 3);
+        // place 0, 2 and next 1, 0 are no part of ROW 0: 10, and 30 and 10 and 1
+        DUE.onPaper(z, "left(0, 1, 1, 1), its THINGS alone", () -> z.left(0, 1, 1, 1), 51);
+        DUE.onPaper(z, "left(0, 1, 1, 0), its THINGS alone", () -> z.left(0, 1, 1, 0), 51);
         NonsenseRows y = Due.told(THINGS + "row 0 1;");
         DUE.onPaper(y, "left(0, 8, 4, 0) of nothing", () -> y.left(0, 8, 4, 0), 0);
     }

@@ -13,6 +13,7 @@ public final class EdgeRowsTest {
         shuffledRefused();
         shuffledBounds();
         shuffledFull();
+        newRowsAgain();
         backwardRefused();
         backwardBounds();
         backwardFull();
@@ -30,9 +31,11 @@ public final class EdgeRowsTest {
         partsRefused();
         partsOfNone();
         partsOfFortyOne();
+        partsOfOtherThings();
         partsTheFirst();
         keepAndBackRefused();
         keepInPlaceOfAnother();
+        keepOfAFullBook();
         keepNotSlotsNorTape();
         keepOfNothing();
         row();
@@ -54,13 +57,6 @@ public final class EdgeRowsTest {
             DUE.is("thing(" + row + ", " + i + ")", x.thing(row, i), due[i]);
         }
         DUE.is("thing(" + row + ", " + due.length + ")", x.thing(row, due.length), -1);
-    }
-
-    private static void put(NonsenseRows x, int slot, int width, long... numbers) {
-        DUE.is("row", x.row(slot, width, numbers.length), 0);
-        for (int i = 0; i < numbers.length; i++) {
-            DUE.is("write", x.write(slot, i, numbers[i]), 0);
-        }
     }
 
     /** What a SLOT has, seen as a ROW that goes again; IMAGE 2 is used for it. */
@@ -104,6 +100,21 @@ public final class EdgeRowsTest {
         things(x, 9, 3, 2, 1);
         things(x, 0, 0, 1, 2, 3, 4, 5, 6, 7, 8, 9, 10, 11);
         DUE.is("used(9)", x.used(9), 0);
+    }
+
+    private static void newRowsAgain() {
+        DUE.about("30, 31, 32: a new ROW, where there was one that went again");
+        NonsenseRows x = Due.told(STEADY);
+        DUE.put(x, 0, 0, 3, 2);
+        x.keep(0);
+        for (int way = 0; way < 6; way++) {
+            DUE.is("the new ROW", way % 3 == 0 ? x.rowOf(0) : way % 3 == 1 ? x.backward(0) : x.shuffled(0, 1), 2);
+            DUE.is("used(2)", x.used(2), 0);
+            DUE.is("thing(2, 1)", x.thing(2, 1), way % 3 == 1 ? 1 : 2);
+            DUE.is("thing(2, 2)", x.thing(2, 2), way % 3 == 0 ? -1 : way % 3 == 1 ? 0 : 1);
+            x.read(2, 7);
+            x.back(0);
+        }
     }
 
     private static void shuffledFull() {
@@ -152,7 +163,7 @@ public final class EdgeRowsTest {
         for (int slot = 0; slot < 4; slot++) {
             int s = slot;
             DUE.refused(x, "rowOf(" + slot + ")", () -> x.rowOf(s), -6);
-            put(x, slot, 0, 3, slot == 3 ? 0 : slot);
+            DUE.put(x, slot, 0, 3, slot == 3 ? 0 : slot);
             DUE.is("rowOf(" + slot + ")", x.rowOf(slot), 2 + slot);
             things(x, 2 + slot, 3, slot == 3 ? 0 : slot);
         }
@@ -161,35 +172,35 @@ public final class EdgeRowsTest {
     private static void rowOfNumbers() {
         DUE.about("32: -2: .. a number is no THING");
         NonsenseRows x = Due.told(STEADY);
-        put(x, 0, 3, 0, 3);
+        DUE.put(x, 0, 3, 0, 3);
         DUE.is("rowOf(0) of the first and the last", x.rowOf(0), 2);
         long far = 1L << 32;
         for (long bad : new long[] {4, -1, 24, far, far + 1, -far, Long.MAX_VALUE, Long.MIN_VALUE, MOST, LEAST, 32, 33, 64}) {
-            put(x, 0, 3, bad, 1);
+            DUE.put(x, 0, 3, bad, 1);
             DUE.refused(x, "rowOf(0) of " + bad, () -> x.rowOf(0), -2);
-            put(x, 0, 3, 1, 2, bad);
+            DUE.put(x, 0, 3, 1, 2, bad);
             DUE.refused(x, "rowOf(0) of .. " + bad, () -> x.rowOf(0), -2);
         }
         NonsenseRows y = new NonsenseRows();
-        put(y, 0, 0, 0, 1);
+        DUE.put(y, 0, 0, 0, 1);
         DUE.refused(y, "rowOf(0) without THINGS", () -> y.rowOf(0), -2);
         NonsenseRows z = Due.told(MANY + "row 0 1;");
-        put(z, 0, 0, 23, 0);
+        DUE.put(z, 0, 0, 23, 0);
         DUE.is("rowOf(0) of 23", z.rowOf(0), 1);
-        put(z, 0, 0, 24, 0);
+        DUE.put(z, 0, 0, 24, 0);
         DUE.refused(z, "rowOf(0) of 24", () -> z.rowOf(0), -2);
     }
 
     private static void rowOfTwice() {
         DUE.about("32: -2: .. or twice");
         NonsenseRows x = Due.told(MANY + "row 0 1;row 1 2;");
-        put(x, 0, 0, 0, 0);
+        DUE.put(x, 0, 0, 0, 0);
         DUE.refused(x, "rowOf(0) of 0 0", () -> x.rowOf(0), -2);
-        put(x, 0, 0, 23, 22, 23);
+        DUE.put(x, 0, 0, 23, 22, 23);
         DUE.refused(x, "rowOf(0) of 23 22 23", () -> x.rowOf(0), -2);
-        put(x, 0, 0, 1, 2, 3, 4, 5, 6, 7, 8, 9, 10, 11, 11);
+        DUE.put(x, 0, 0, 1, 2, 3, 4, 5, 6, 7, 8, 9, 10, 11, 11);
         DUE.refused(x, "rowOf(0), the last twice", () -> x.rowOf(0), -2);
-        put(x, 0, 0, 1, 257);
+        DUE.put(x, 0, 0, 1, 257);
         DUE.refused(x, "rowOf(0), one twice as it was cut", () -> x.rowOf(0), -2);
     }
 
@@ -211,13 +222,13 @@ public final class EdgeRowsTest {
     private static void rowOfFull() {
         DUE.about("32: -3: there are twelve");
         NonsenseRows x = Due.told("thing easy 1;thing easy 1;" + "row 0 1;".repeat(11));
-        put(x, 0, 0, 1, 0);
+        DUE.put(x, 0, 0, 1, 0);
         DUE.is("the twelfth", x.rowOf(0), 11);
         things(x, 11, 1, 0);
         DUE.refused(x, "the 13th", () -> x.rowOf(0), -3);
         DUE.refused(x, "the 13th of nothing", () -> x.rowOf(1), -6);
         DUE.refused(x, "the 13th of no SLOT", () -> x.rowOf(4), -2);
-        put(x, 0, 0, 1, 1);
+        DUE.put(x, 0, 0, 1, 1);
         DUE.refused(x, "the 13th of one twice", () -> x.rowOf(0), -2);
     }
 
@@ -409,6 +420,28 @@ public final class EdgeRowsTest {
         }
     }
 
+    private static void partsOfOtherThings() {
+        DUE.about("37: the HEAD of IMAGE k with its TEXT");
+        NonsenseRows x = Due.told(THINGS + "row 3 2;row 0 1;hold 3;lean place 100;grow place by easy plus 1;");
+        // THING 3 has 1 a READING, THING 1 has 2: four and three
+        x.keep(0);
+        Due.tell(x, THINGS + "row 0 1;row 3 2;hold 3;lean place 100;grow place by easy plus 1;");
+        DUE.is("needs(0)", x.needs(0), 3);
+        DUE.is("needs(1)", x.needs(1), 4);
+        DUE.onPaper(x, "parts(0), one each", () -> x.parts(0), 0);
+        DUE.is("needs(1) of its own TEXT", x.needs(1), 4);
+        DUE.is("fresh(1) of its own TEXT", x.fresh(1), 4);
+        Due.tell(x, THINGS + "row 0 1;row 2 3;hold 5;lean place 100;grow place by easy plus 1;");
+        // here 4 and 6, there 4 and 3
+        DUE.onPaper(x, "parts(0), by the IMAGE's own HOLD", () -> x.parts(0), 1);
+        DUE.is("fresh(1) of its own TEXT", x.fresh(1), 6);
+        Due.tell(x, THINGS + "row 3 2;row 1 3;hold 6;lean place 100;grow place by easy plus 1;");
+        x.keep(1);
+        Due.tell(x, THINGS + "row 2 3;row 0 1;hold 6;lean place 100;grow place by easy plus 1;");
+        // here 7 and 4, there 7 and 7
+        DUE.onPaper(x, "parts(1), by the IMAGE's own ROWS", () -> x.parts(1), 1);
+    }
+
     private static void partsTheFirst() {
         DUE.about("37: most unlike (by how much) .. the first of several");
         NonsenseRows x = Due.told(THINGS + "row 0 1;row 1 0;row 2 3;row 3 2;hold 100;lean place 100;grow place by 10;");
@@ -475,11 +508,30 @@ public final class EdgeRowsTest {
         DUE.is("back(0), in place of another\n" + Look.at(x) + second, Look.at(x).equals(second) ? 1 : 0, 1);
     }
 
+    private static void keepOfAFullBook() {
+        DUE.about("41: IMAGE k keeps .. BOOK, a full one too");
+        NonsenseRows x = Due.told(STEADY);
+        for (int i = 1; i <= 65; i++) {
+            x.waits(i % 3);
+            x.read(i % 2, i % 50 + 1);
+        }
+        String full = Look.at(x);
+        x.keep(1);
+        x.forget();
+        for (int i = 0; i < 60; i++) {
+            x.read(0, 1);
+        }
+        x.back(1);
+        DUE.is("back(1)\n" + Look.at(x) + full, Look.at(x).equals(full) ? 1 : 0, 1);
+        DUE.is("sitting(59, 1)", x.sitting(59, 1), 16);
+        DUE.is("the SITTINGS that it lost", x.fit(0, 0, 0, 0, 0), -5);
+    }
+
     private static void keepNotSlotsNorTape() {
         DUE.about("42: these are as IMAGE k has them; SLOTS, the TAPE and the FAULT are not of them");
         NonsenseRows x = Due.told(STEADY);
         x.keep(0);
-        put(x, 0, 0, 2, 3);
+        DUE.put(x, 0, 0, 2, 3);
         x.feed(0x20202020, 0x20202020, 0x20202020, 0x20202020, 0x20202020);
         Due.tell(x, "hold 5001;");
         x.feed(0x20202020, 0x20202020, 0x20202020, 0x20202020, 0x20202020);
@@ -537,7 +589,7 @@ public final class EdgeRowsTest {
     private static void rowStays() {
         DUE.about("43: -3, and the SLOT stays: n is below 0");
         NonsenseRows x = Due.told(STEADY);
-        put(x, 1, 1, 3, 2, 1);
+        DUE.put(x, 1, 1, 3, 2, 1);
         DUE.is("row(1, 0, -1)", x.row(1, 0, -1), -3);
         has(x, 1, 3, 2, 1);
         DUE.is("row(1, 2, LEAST)", x.row(1, 2, LEAST), -3);
@@ -545,7 +597,7 @@ public final class EdgeRowsTest {
         DUE.is("row(1, 2, 61)", x.row(1, 2, 61), -2);
         DUE.is("row(1, 4, 2)", x.row(1, 4, 2), -2);
         has(x, 1, 3, 2, 1);
-        put(x, 2, 1, 0, 0);
+        DUE.put(x, 2, 1, 0, 0);
         DUE.is("its WIDTH stays", x.paste(1, 0, 2, 0, 2), 0);
         DUE.is("row(3, 0, -1) of nothing", x.row(3, 0, -1), -3);
         DUE.is("it has nothing still", x.write(3, 0, 1), -6);
@@ -555,7 +607,7 @@ public final class EdgeRowsTest {
     private static void rowInPlaceOfAnother() {
         DUE.about("43: n numbers .. all 0 (in place of another one)");
         NonsenseRows x = Due.told(STEADY);
-        put(x, 0, 0, 3, 2, 1);
+        DUE.put(x, 0, 0, 3, 2, 1);
         x.row(0, 0, 3);
         DUE.is("rowOf(0) of three that are 0", x.rowOf(0), -2);
         x.write(0, 0, 1);
@@ -570,7 +622,7 @@ public final class EdgeRowsTest {
             x.write(0, i, 3);
         }
         x.row(0, 3, 60);
-        put(x, 1, 3, 1, 1);
+        DUE.put(x, 1, 3, 1, 1);
         for (int i = 0; i < 60; i++) {
             x.paste(0, i, 1, 1, 1);
             has(x, 1, 1, 0);
@@ -584,7 +636,7 @@ public final class EdgeRowsTest {
     private static void write() {
         DUE.about("44: -2: there is no such SLOT; -6: it has nothing; -7: there is no such number");
         NonsenseRows x = Due.told(STEADY);
-        put(x, 0, 0, 3, 2, 1);
+        DUE.put(x, 0, 0, 3, 2, 1);
         for (int slot : NO_SLOTS) {
             DUE.is("write(" + slot + ", 0, 0)", x.write(slot, 0, 0), -2);
             DUE.is("write(" + slot + ", -1, 0)", x.write(slot, -1, 0), -2);
@@ -607,7 +659,7 @@ public final class EdgeRowsTest {
     /** The hours that a number comes to in days(); -1: it is refused. */
     private static int hours(int width, long v) {
         NonsenseRows x = Due.told(STEADY);
-        put(x, 0, width, v, 0, 1);
+        DUE.put(x, 0, width, v, 0, 1);
         return x.days(0) == 1 ? x.count(4) : -1;
     }
 
@@ -626,7 +678,7 @@ public final class EdgeRowsTest {
     private static void pasteSlots() {
         DUE.about("45: -2: there is no such SLOT; -6: one has nothing");
         NonsenseRows x = Due.told(STEADY);
-        put(x, 0, 0, 3, 2, 1);
+        DUE.put(x, 0, 0, 3, 2, 1);
         for (int slot : NO_SLOTS) {
             DUE.is("from " + slot, x.paste(slot, 0, 0, 0, 1), -2);
             DUE.is("to " + slot, x.paste(0, 0, slot, 0, 1), -2);
@@ -639,7 +691,7 @@ public final class EdgeRowsTest {
         DUE.is("from one of nothing to itself", x.paste(3, 0, 3, 0, 0), -6);
         DUE.is("to one of nothing, beyond", x.paste(0, -1, 3, -1, -1), -6);
         has(x, 0, 3, 2, 1);
-        put(x, 3, 0, 0, 0);
+        DUE.put(x, 3, 0, 0, 0);
         DUE.is("from 0 to 3", x.paste(0, 1, 3, 0, 2), 0);
         has(x, 3, 2, 1);
         DUE.is("from 3 to 0", x.paste(3, 1, 0, 0, 1), 0);
@@ -651,8 +703,8 @@ public final class EdgeRowsTest {
         NonsenseRows x = Due.told(STEADY);
         for (int from = 0; from < 4; from++) {
             for (int to = 0; to < 4; to++) {
-                put(x, 0, from, 3, 2, 1);
-                put(x, 1, to, 0, 1, 2);
+                DUE.put(x, 0, from, 3, 2, 1);
+                DUE.put(x, 1, to, 0, 1, 2);
                 DUE.is("WIDTH " + from + " to " + to + ", beyond", x.paste(0, 0, 1, 0, 4), from == to ? -7 : -8);
                 DUE.is("WIDTH " + from + " to " + to + ", none", x.paste(0, 0, 1, 0, 0), from == to ? 0 : -8);
                 DUE.is("WIDTH " + from + " to " + to, x.paste(0, 0, 1, 0, 3), from == to ? 0 : -8);
@@ -665,8 +717,8 @@ public final class EdgeRowsTest {
     private static void pasteBeyond() {
         DUE.about("45: -7, and nothing happens: some are beyond their rows, or a place or n is below 0");
         NonsenseRows x = Due.told(STEADY);
-        put(x, 0, 0, 3, 2, 1);
-        put(x, 1, 0, 0, 1, 2, 3);
+        DUE.put(x, 0, 0, 3, 2, 1);
+        DUE.put(x, 1, 0, 0, 1, 2, 3);
         int[][] bad = {{0, 0, 4}, {1, 0, 3}, {2, 0, 2}, {3, 0, 1}, {4, 0, 0}, {0, 2, 3}, {0, 3, 2}, {0, 4, 1}, {0, 5, 0}, {-1, 0, 1}, {0, -1, 1},
             {0, 0, -1}, {-1, 0, 0}, {0, -1, 0}, {-1, -1, 2}, {-1, 0, -1}, {MOST, 0, 1}, {0, MOST, 1}, {0, 0, MOST}, {MOST, MOST, MOST}, {1, 0, MOST},
             {0, 1, MOST}, {LEAST, 0, 1}, {0, LEAST, 1}, {0, 0, LEAST}, {LEAST, LEAST, LEAST}, {MOST, 0, LEAST}, {1, 1, -1}, {3, 4, -1}};
@@ -685,8 +737,8 @@ public final class EdgeRowsTest {
     private static void pasteOfNone() {
         DUE.about("45: so many numbers, none too");
         NonsenseRows x = Due.told(STEADY);
-        put(x, 0, 0, 3, 2, 1);
-        put(x, 1, 0, 0, 1);
+        DUE.put(x, 0, 0, 3, 2, 1);
+        DUE.put(x, 1, 0, 0, 1);
         x.row(2, 0, 0);
         DUE.is("none from the end to the end", x.paste(0, 3, 1, 2, 0), 0);
         DUE.is("none from behind the end", x.paste(0, 4, 1, 2, 0), -7);
@@ -701,22 +753,22 @@ public final class EdgeRowsTest {
     private static void pasteAsTheyWere() {
         DUE.about("45: put to another one's (or its own) .. as they were");
         NonsenseRows x = Due.told(MANY + "row 0 1;");
-        put(x, 0, 0, 1, 2, 3, 4, 5);
+        DUE.put(x, 0, 0, 1, 2, 3, 4, 5);
         DUE.is("forward over itself", x.paste(0, 0, 0, 1, 4), 0);
-        put(x, 1, 0, 9, 0, 0, 0, 0);
+        DUE.put(x, 1, 0, 9, 0, 0, 0, 0);
         DUE.is("what came of it", x.paste(0, 1, 1, 1, 4), 0);
         has(x, 1, 9, 1, 2, 3, 4);
-        put(x, 0, 0, 1, 2, 3, 4, 5);
+        DUE.put(x, 0, 0, 1, 2, 3, 4, 5);
         DUE.is("backward over itself", x.paste(0, 1, 0, 0, 4), 0);
-        put(x, 1, 0, 0, 0, 0, 0, 9);
+        DUE.put(x, 1, 0, 0, 0, 0, 0, 9);
         DUE.is("what came of it", x.paste(0, 0, 1, 0, 4), 0);
         has(x, 1, 2, 3, 4, 5, 9);
-        put(x, 0, 0, 1, 2, 3, 4, 5);
+        DUE.put(x, 0, 0, 1, 2, 3, 4, 5);
         DUE.is("to where they are", x.paste(0, 0, 0, 0, 5), 0);
         has(x, 0, 1, 2, 3, 4, 5);
         for (int width = 0; width < 4; width++) {
-            put(x, 0, width, 11, 12);
-            put(x, 1, width, 21, 22, 23);
+            DUE.put(x, 0, width, 11, 12);
+            DUE.put(x, 1, width, 21, 22, 23);
             DUE.is("in WIDTH " + width, x.paste(0, 0, 1, 1, 2), 0);
             has(x, 1, 21, 11, 12);
             has(x, 0, 11, 12);

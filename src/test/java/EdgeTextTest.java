@@ -17,6 +17,7 @@ public final class EdgeTextTest {
         boundsOfNumbers();
         boundsInASum();
         eachOnce();
+        eachOnceInATextAlone();
         mixOfNextAlone();
         blanks();
         lettersAndDigits();
@@ -30,6 +31,8 @@ public final class EdgeTextTest {
         feedFull();
         feedHighestFirst();
         endBounds();
+        endLeavesNothingBehind();
+        fullTape();
         textEmpty();
         textInPlaceOfAnother();
         textWithAFault();
@@ -185,6 +188,26 @@ public final class EdgeTextTest {
         DUE.is("count(2) of each once", good(all, 0).count(2), 8 + 1 + 4 + 1);
     }
 
+    private static void eachOnceInATextAlone() {
+        DUE.about("I: told already: in this TEXT");
+        String all = TWO + "row 0 1;hold 1;lean next 1;lean back 2;lean off 3;lean place 4;grow next by 1;grow back by 1;grow off by 1;"
+            + "grow place by 1;fall next by 1;fall back by 1;fall off by 1;fall place by 1;mix next by 1;";
+        NonsenseRows x = new NonsenseRows();
+        for (int times = 0; times < 3; times++) {
+            DUE.is("text()", Due.tell(x, all), 1);
+            DUE.is("text() with a FAULT", Due.tell(x, all + "?"), -4);
+            DUE.is("fault(0)", x.fault(0), 1);
+            DUE.is("fault(1)", x.fault(1), all.length());
+        }
+        String parts = THING + "grow next by 1" + "plus1".repeat(174) + ";";
+        for (int times = 0; times < 4; times++) {
+            DUE.is("text() of many PARTS", Due.tell(x, parts), 0);
+            DUE.is("law(0, 0, 0, 0)", x.law(0, 0, 0, 0), 175);
+            DUE.is("text() without", Due.tell(x, THING), 0);
+            DUE.is("law(0, 0, 0, 0) without", x.law(0, 0, 0, 0), 0);
+        }
+    }
+
     private static void mixOfNextAlone() {
         DUE.about("I: of mix: next alone");
         good("mix next by 1;", 0);
@@ -215,6 +238,8 @@ public final class EdgeTextTest {
         }
         DUE.is("digits 0 to 9", good("hold 0;", 0).count(7) + good("hold 1239;", 0).count(7), 1239);
         fault("hold a1;", 1, 5);
+        fault("holda 1;", 1, 0);
+        fault("holdz 1;", 1, 0);
         fault("zold 1;", 1, 0);
         fault("a", 1, 0);
         fault("z", 1, 0);
@@ -254,6 +279,14 @@ public final class EdgeTextTest {
         fault("grow next next 3;", 1, 10);
         fault("grow next by ;", 1, 13);
         fault("grow next by by;", 1, 13);
+        for (String word : new String[] {"thing", "row", "hold", "lean", "next", "place", "grow", "mix", "plus", "over"}) {
+            fault("grow next by " + word + ";", 1, 13);
+            fault("grow next by 1 plus " + word + ";", 1, 20);
+        }
+        for (String word : new String[] {"grow", "plus", "has", "thing", "by", "1", ";"}) {
+            fault("grow " + word + " by 1;", 1, 5);
+            fault("lean " + word + " 1;", 1, 5);
+        }
         fault("grow next by 3 3;", 1, 15);
         fault("grow next by has has;", 1, 17);
         fault("grow next by 3 plus ;", 1, 20);
@@ -421,6 +454,37 @@ public final class EdgeTextTest {
         x.end(7);
         DUE.is("the first n bytes alone", x.text(), 0);
         DUE.is("count(7)", x.count(7), 5);
+    }
+
+    private static void endLeavesNothingBehind() {
+        DUE.about("3: the TAPE has its first n bytes alone");
+        String[] texts = {"hold 5001;", "hold 5000;", "holding 1;"};
+        int[] cuts = {8, 9, 4};
+        for (int i = 0; i < texts.length; i++) {
+            NonsenseRows x = new NonsenseRows();
+            Due.feed(x, texts[i]);
+            x.end(cuts[i]);
+            DUE.is("text() of the first " + cuts[i] + " of " + texts[i], x.text(), -4);
+            DUE.is("fault(0)", x.fault(0), 1);
+            DUE.is("fault(1)", x.fault(1), cuts[i]);
+        }
+    }
+
+    private static void fullTape() {
+        DUE.about("2: a TAPE of 900 bytes as a TEXT");
+        fault(";".repeat(900), 1, 0);
+        fault("hold 1" + ";".repeat(894), 1, 7);
+        fault("?".repeat(900), 1, 0);
+        fault("hold " + "0".repeat(895), 1, 900);
+        fault("hold " + "9".repeat(895), 2, 5);
+        fault("x".repeat(900), 1, 0);
+        fault("hold 1;" + "x".repeat(893), 1, 7);
+        DUE.is("count(7)", good("hold " + "0".repeat(890) + "1234;", 0).count(7), 1234);
+        StringBuilder lines = new StringBuilder("thing easy 1;".repeat(2) + "hold 1;lean next 1;grow next by 1;");
+        String tokens = lines + "row 0 1;".repeat(12);
+        NonsenseRows x = good(" ".repeat(900 - tokens.length()) + tokens, 12);
+        DUE.is("count(2)", x.count(2), 17);
+        DUE.is("a LAW of 175 PARTS", good("thing easy 1;grow next by 1" + "plus1".repeat(174) + ";", 0).law(0, 0, 0, 0), 175);
     }
 
     private static void textEmpty() {

@@ -118,13 +118,6 @@ public final class PlanTest {
         DUE.is("what 1", y.fit(0, 3, 0, 30, 1), 3);
     }
 
-    private static void put(NonsenseRows x, int slot, int width, long... numbers) {
-        x.row(slot, width, numbers.length);
-        for (int i = 0; i < numbers.length; i++) {
-            x.write(slot, i, numbers[i]);
-        }
-    }
-
     private static void days() {
         DUE.about("promise 27");
         NonsenseRows x = Due.told(STEADY);
@@ -134,7 +127,7 @@ public final class PlanTest {
         x.row(0, 0, 0);
         DUE.is("days(0) of an empty row", x.days(0), 0);
         x.read(0, 1);
-        put(x, 0, 1, 5, 0, 2, 3, 1, 0, 9, 9);
+        DUE.put(x, 0, 1, 5, 0, 2, 3, 1, 0, 9, 9);
         DUE.is("days(0)", x.days(0), 2);
         DUE.is("count(4)", x.count(4), 8);
         DUE.is("count(6)", x.count(6), 3);
@@ -144,11 +137,11 @@ public final class PlanTest {
         DUE.is("sitting(2, 0)", x.sitting(2, 0), 1);
         DUE.is("sitting(2, 1)", x.sitting(2, 1), 11);
         DUE.is("sitting(2, 2)", x.sitting(2, 2), 8);
-        put(x, 0, 2, 201, 0, 1, 1, 2, 1, 1, 0, 51, -1, 0, 1, 1, -1, 1, 1, 0, -1, 2, 0, 50);
+        DUE.put(x, 0, 2, 201, 0, 1, 1, 2, 1, 1, 0, 51, -1, 0, 1, 1, -1, 1, 1, 0, -1, 2, 0, 50);
         DUE.is("days(0) with refused ones", x.days(0), 1);
         DUE.is("count(4)", x.count(4), 10);
         DUE.is("used(0)", x.used(0), 53);
-        put(x, 0, 3, 1L << 32, 0, 1, 1, 1L << 32, 1, 1, 0, 1L << 32, 200, 1, 1);
+        DUE.put(x, 0, 3, 1L << 32, 0, 1, 1, 1L << 32, 1, 1, 0, 1L << 32, 200, 1, 1);
         DUE.is("days(0) of great numbers", x.days(0), 1);
         DUE.is("count(4)", x.count(4), 210);
     }
@@ -156,21 +149,21 @@ public final class PlanTest {
     private static void daysOfWidths() {
         DUE.about("promise 27, WIDTHS");
         NonsenseRows x = Due.told(STEADY);
-        put(x, 0, 0, 127, 0, 1, 128, 0, 1, 256 + 3, 0, 1);
+        DUE.put(x, 0, 0, 127, 0, 1, 128, 0, 1, 256 + 3, 0, 1);
         DUE.is("days(0) of bytes", x.days(0), 2);
         DUE.is("count(4)", x.count(4), 130);
-        put(x, 0, 1, 65536 + 4, 1, 65536);
+        DUE.put(x, 0, 1, 65536 + 4, 1, 65536);
         DUE.is("days(0) of two bytes", x.days(0), 1);
         DUE.is("count(4)", x.count(4), 134);
-        put(x, 0, 2, (7L << 32) + 6, 1, 1);
+        DUE.put(x, 0, 2, (7L << 32) + 6, 1, 1);
         DUE.is("days(0) of four bytes", x.days(0), 1);
         DUE.is("count(4)", x.count(4), 140);
         NonsenseRows y = new NonsenseRows();
-        put(y, 2, 0, 1, 0, 1);
+        DUE.put(y, 2, 0, 1, 0, 1);
         DUE.is("days(2) without ROWS", y.days(2), 0);
         DUE.is("count(4) left out whole", y.count(4), 0);
         NonsenseRows z = Due.told(THINGS + "row 0 1;hold 1;");
-        put(z, 2, 0, 1, 0, 0);
+        DUE.put(z, 2, 0, 1, 0, 0);
         DUE.is("days(2) of what can't be LEARNT", z.days(2), 1);
         DUE.is("sitting(0, 1)", z.sitting(0, 1), 40);
     }

@@ -84,40 +84,33 @@ public final class RowsTest {
         DUE.is("support(1, 2)", y.support(1, 2), 20);
     }
 
-    private static void put(NonsenseRows x, int slot, int width, long... numbers) {
-        DUE.is("row", x.row(slot, width, numbers.length), 0);
-        for (int i = 0; i < numbers.length; i++) {
-            DUE.is("write", x.write(slot, i, numbers[i]), 0);
-        }
-    }
-
     private static void rowOf() {
         DUE.about("promise 32");
         NonsenseRows x = Due.told("thing easy 0;".repeat(13) + "row 0 1;");
         DUE.is("rowOf(0)", x.rowOf(0), -6);
         DUE.is("rowOf(4)", x.rowOf(4), -2);
         DUE.is("rowOf(-1)", x.rowOf(-1), -2);
-        put(x, 0, 0, 12, 3);
+        DUE.put(x, 0, 0, 12, 3);
         DUE.is("rowOf(0)", x.rowOf(0), 1);
         things(x, 1, 12, 3);
-        put(x, 1, 3, 12, 11, 10, 9, 8, 7, 6, 5, 4, 3, 2, 1);
+        DUE.put(x, 1, 3, 12, 11, 10, 9, 8, 7, 6, 5, 4, 3, 2, 1);
         DUE.is("rowOf(1)", x.rowOf(1), 2);
         things(x, 2, 12, 11, 10, 9, 8, 7, 6, 5, 4, 3, 2, 1);
-        put(x, 1, 3, 12, 11, 10, 9, 8, 7, 6, 5, 4, 3, 2, 1, 0);
+        DUE.put(x, 1, 3, 12, 11, 10, 9, 8, 7, 6, 5, 4, 3, 2, 1, 0);
         DUE.is("rowOf(1) of 13", x.rowOf(1), -2);
-        put(x, 1, 3, 12);
+        DUE.put(x, 1, 3, 12);
         DUE.is("rowOf(1) of one", x.rowOf(1), -2);
-        put(x, 1, 3);
+        DUE.put(x, 1, 3);
         DUE.is("rowOf(1) of none", x.rowOf(1), -2);
-        put(x, 1, 2, 1, 13);
+        DUE.put(x, 1, 2, 1, 13);
         DUE.is("rowOf(1) with 13", x.rowOf(1), -2);
-        put(x, 1, 2, 1, -1);
+        DUE.put(x, 1, 2, 1, -1);
         DUE.is("rowOf(1) with -1", x.rowOf(1), -2);
-        put(x, 1, 3, 1, 1L << 32);
+        DUE.put(x, 1, 3, 1, 1L << 32);
         DUE.is("rowOf(1) with a great number", x.rowOf(1), -2);
-        put(x, 1, 3, 5, 1, 5);
+        DUE.put(x, 1, 3, 5, 1, 5);
         DUE.is("rowOf(1) with one twice", x.rowOf(1), -2);
-        put(x, 1, 0, 256, 257);
+        DUE.put(x, 1, 0, 256, 257);
         DUE.is("rowOf(1) of cut numbers", x.rowOf(1), 3);
         things(x, 3, 0, 1);
         for (int i = 4; i < 12; i++) {
@@ -125,7 +118,7 @@ public final class RowsTest {
         }
         DUE.is("rowOf(0) with twelve", x.rowOf(0), -3);
         DUE.is("rowOf(2) with twelve", x.rowOf(2), -6);
-        put(x, 1, 0, 1, 1);
+        DUE.put(x, 1, 0, 1, 1);
         DUE.is("rowOf(1) with twelve, of one twice", x.rowOf(1), -2);
         DUE.is("read(11, 1)", x.read(11, 1), 1);
         rowsAgain();
@@ -135,7 +128,7 @@ public final class RowsTest {
     private static void rowsAgain() {
         NonsenseRows x = Due.told(THINGS + "row 0 1 2;");
         x.keep(0);
-        put(x, 0, 0, 2, 3);
+        DUE.put(x, 0, 0, 2, 3);
         for (int way = 0; way < 9; way++) {
             int row = way % 3 == 0 ? x.rowOf(0) : way % 3 == 1 ? x.backward(0) : x.shuffled(0, 1);
             DUE.is("the new ROW", row, 1);
@@ -488,13 +481,13 @@ public final class RowsTest {
     /** Numbers that are both taken and put over are put as they were. */
     private static void pasteToItself() {
         NonsenseRows x = Due.told(THINGS + "row 0 1;");
-        put(x, 0, 0, 3, 1, 2, 0);
+        DUE.put(x, 0, 0, 3, 1, 2, 0);
         x.row(1, 0, 3);
         x.paste(0, 0, 0, 1, 3);
         x.paste(0, 1, 1, 0, 3);
         DUE.is("rowOf(1) put forth", x.rowOf(1), 1);
         things(x, 1, 3, 1, 2);
-        put(x, 0, 0, 3, 1, 2, 0);
+        DUE.put(x, 0, 0, 3, 1, 2, 0);
         x.paste(0, 1, 0, 0, 3);
         x.paste(0, 0, 1, 0, 3);
         DUE.is("rowOf(1) put back", x.rowOf(1), 2);
