@@ -487,6 +487,7 @@ public final class EdgeHeadTest {
             DUE.is("sort " + sort + " between the last ones", x.strength(sort, 3, 2), 0);
             DUE.is("sort " + sort + " to the last one", x.strength(sort, 0, 3), 0);
         }
+        DUE.is("from a THING to itself", x.strength(0, 1, 1), 0);
         DUE.is("next 0, 1", x.strength(0, 0, 1), 60);
         DUE.is("back 1, 0", x.strength(1, 1, 0), 90);
         DUE.is("off 0, 2", x.strength(2, 0, 2), 30);
