@@ -282,6 +282,14 @@ public final class EdgeHeadTest {
         DUE.is("next 2, 23 leads from another one", x.strength(0, 2, 23), 100);
         x.read(3, 1);
         DUE.is("next 5, 1 leads from another one", x.strength(0, 0, 1), 86);
+        NonsenseRows w = Due.told("thing easy 1;".repeat(24) + "row 1 0;row 0 23;row 23 22;row 22 0;grow next by 100;mix next by 7;");
+        for (int row = 0; row < 4; row++) {
+            w.read(row, 1);
+        }
+        int[][] pairs = {{1, 0}, {0, 23}, {23, 22}, {22, 0}};
+        for (int[] pair : pairs) {
+            DUE.is("24 THINGS, next " + pair[0] + ", " + pair[1] + " has none beside it", w.strength(0, pair[0], pair[1]), 100);
+        }
         NonsenseRows z = Due.told(THINGS + "row 1 0;row 1 2;row 1 3;grow next by 100;mix next by 7;");
         z.read(0, 1);
         z.read(1, 1);

@@ -479,6 +479,8 @@ public final class EdgeTextTest {
         fault("hold " + "9".repeat(895), 2, 5);
         fault("x".repeat(900), 1, 0);
         fault("hold 1;" + "x".repeat(893), 1, 7);
+        fault(" ".repeat(898) + "ho", 1, 898);
+        fault(" ".repeat(896) + "hold", 1, 900);
         DUE.is("count(7)", good("hold " + "0".repeat(890) + "1234;", 0).count(7), 1234);
         StringBuilder lines = new StringBuilder("thing easy 1;".repeat(2) + "hold 1;lean next 1;grow next by 1;");
         String tokens = lines + "row 0 1;".repeat(12);
