@@ -840,12 +840,12 @@ public final class NonsenseRows {
                     minus = joints[i] == MINUS;
                     term = value;
                 }
-                if (Math.abs(term) > FARTHEST || Math.abs(sum) > FARTHEST) {
+                if (term > FARTHEST || term < -FARTHEST || sum > FARTHEST || sum < -FARTHEST) {
                     return 0;
                 }
             }
             sum = minus ? sum - term : sum + term;
-            return Math.abs(sum) > FARTHEST ? 0 : sum;
+            return sum > FARTHEST || sum < -FARTHEST ? 0 : sum;
         }
     }
 
@@ -955,7 +955,7 @@ public final class NonsenseRows {
         }
 
         int strengthAt(int cell) {
-            return Math.max(cells[cell] - 1, 0);
+            return cells[cell] > 0 ? cells[cell] - 1 : 0;
         }
 
         void put(int cell, int strength) {
