@@ -840,7 +840,8 @@ public final class NonsenseRows {
                     minus = joints[i] == MINUS;
                     term = value;
                 }
-                if (term > FARTHEST || term < -FARTHEST || sum > FARTHEST || sum < -FARTHEST) {
+                // No PART is below 0, so no TERM is.
+                if (term > FARTHEST || sum > FARTHEST || sum < -FARTHEST) {
                     return 0;
                 }
             }
